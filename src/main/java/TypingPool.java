@@ -8,7 +8,7 @@ public final class TypingPool {
     private static final int LAST_MINUTE = 4800;
     private static final int DAY_MINUTES = 480;
     private static final int LONGEST_STEP = 960;
-    private static final int LAST_RULE_DAY = 9;
+    private static final int LAST_DAY = 9;
     private static final int LAST_KNOWN_DAY = 99;
     private static final int ALL_STYLES = 255;
     private static final int SIXTEEN_BITS = 65535;
@@ -131,7 +131,7 @@ public final class TypingPool {
     }
 
     public int rule(int kind, int day) {
-        boolean right = within(kind, 0, KINDS - 1) && within(day, 0, LAST_RULE_DAY);
+        boolean right = within(kind, 0, KINDS - 1) && within(day, 0, LAST_DAY);
         if (!right || rules.count >= MOST_RULES) {
             return NO_RULE;
         }
@@ -305,8 +305,8 @@ public final class TypingPool {
     }
 
     public int earns(int hand, int day) throws NoSuchElementException {
-        // A piece that is done in the last minute is done at 4800, which by 480 is a day 10.
-        if (!book.hasHand(hand) || !within(day, NONE, LAST_MINUTE / DAY_MINUTES)) {
+        // A piece done at 4800 is done on no day (4800 by 480 is 10): only the sum for NONE has it.
+        if (!book.hasHand(hand) || !within(day, NONE, LAST_DAY)) {
             throw new NoSuchElementException("no such hand or day");
         }
         return ledger.payOf(hand, day);

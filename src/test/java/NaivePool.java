@@ -583,7 +583,7 @@ final class NaivePool {
     }
 
     int earns(int hand, int day) {
-        if (!isHand(hand) || !in(day, -1, 10)) {
+        if (!isHand(hand) || !in(day, -1, 9)) {
             throw new NoSuchElementException();
         }
         int sum = 0;

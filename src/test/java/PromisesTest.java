@@ -728,6 +728,7 @@ public final class PromisesTest {
         due("all", x.earns(0, -1), 10);
         due("the other", x.earns(1, -1), 100);
         due("day 9", x.earns(0, 9), 0);
+        dueThrow("day 10", () -> x.earns(0, 10));
         dueThrow("day 11", () -> x.earns(0, 11));
         dueThrow("day -2", () -> x.earns(0, -2));
         dueThrow("none such", () -> x.earns(2, 0));
@@ -740,8 +741,8 @@ public final class PromisesTest {
         }
         due("done at 4800", y.at(0, 3), 4800);
         due("which is not of day 9", y.earns(0, 9), 0);
-        due("but of a day 10", y.earns(0, 10), 3);
-        due("all", y.earns(0, -1), 3);
+        dueThrow("and 10 is no day", () -> y.earns(0, 10));
+        due("but all have it", y.earns(0, -1), 3);
     }
 
     private static void slipsAndLeft() {
