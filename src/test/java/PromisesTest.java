@@ -1,54 +1,5 @@
-import java.util.NoSuchElementException;
-
 /** Each promise of the document, with answers worked out by hand. */
-public final class PromisesTest {
-    private static int wrong = 0;
-    private static int promise = 0;
-
-    private static void due(String what, long got, long want) {
-        if (got != want) {
-            wrong++;
-            System.out.println("promise " + promise + ": " + what + " answered " + got + ", due is " + want);
-        }
-    }
-
-    private static void due(String what, boolean got, boolean want) {
-        due(what, got ? 1 : 0, want ? 1 : 0);
-    }
-
-    /** A call that may throw. */
-    private interface Call {
-        int answer();
-    }
-
-    private static void dueThrow(String what, Call call) {
-        try {
-            int got = call.answer();
-            wrong++;
-            System.out.println("promise " + promise + ": " + what + " answered " + got + ", due is a throw");
-        } catch (NoSuchElementException e) {
-            return;
-        }
-    }
-
-    private static int tell(TypingPool x, String text, int kind, int day) {
-        x.end(0);
-        for (int i = 0; i < text.length(); i += 4) {
-            int v = 0;
-            for (int k = 0; k < 4; k++) {
-                v = v << 8 | (i + k < text.length() ? text.charAt(i + k) : 0);
-            }
-            x.sign(v);
-        }
-        x.end(text.length());
-        return x.rule(kind, day);
-    }
-
-    /** A plain piece of style 0 that is there at once. */
-    private static int plain(TypingPool x, int lines, int comes, int due) {
-        return x.piece(0, 0, lines, 0, 0, comes, due, 0, 0);
-    }
-
+public final class PromisesTest extends Checks {
     public static void main(String[] args) {
         newObject();
         post();
@@ -84,14 +35,11 @@ public final class PromisesTest {
         tried();
         ill();
         row();
-        System.out.println(wrong == 0 ? "all promises hold" : wrong + " answers are not as due");
-        if (wrong != 0) {
-            System.exit(1);
-        }
+        finish();
     }
 
     private static void newObject() {
-        promise = 1;
+        sentence("promise 1", "");
         TypingPool x = new TypingPool();
         for (int what = 0; what <= 12; what++) {
             due("count(" + what + ")", x.count(what), what == 9 ? 99 : 0);
@@ -103,7 +51,7 @@ public final class PromisesTest {
     }
 
     private static void post() {
-        promise = 2;
+        sentence("promise 2", "");
         TypingPool x = new TypingPool();
         due("post(-1)", x.post(-1), -1);
         due("post(480)", x.post(480), -1);
@@ -116,7 +64,7 @@ public final class PromisesTest {
     }
 
     private static void hand() {
-        promise = 3;
+        sentence("promise 3", "");
         TypingPool x = new TypingPool();
         int[][] others = {{9, 0, 0, 0}, {201, 0, 0, 0}, {10, -1, 0, 0}, {10, 256, 0, 0}, {10, 0, -1, 0},
             {10, 0, 65536, 0}, {10, 0, 0, -1}, {10, 0, 0, 4}};
@@ -134,7 +82,7 @@ public final class PromisesTest {
     }
 
     private static void away() {
-        promise = 4;
+        sentence("promise 4", "");
         TypingPool x = new TypingPool();
         x.hand(60, 1, 0, 0);
         x.step(3);
@@ -157,7 +105,7 @@ public final class PromisesTest {
     }
 
     private static void piece() {
-        promise = 5;
+        sentence("promise 5", "");
         TypingPool x = new TypingPool();
         x.step(10);
         int[] right = {0, 0, 1, 0, 0, 10, 10, 0, 0};
@@ -181,12 +129,8 @@ public final class PromisesTest {
         due("31", told(x, right), -1);
     }
 
-    private static int told(TypingPool x, int[] p) {
-        return x.piece(p[0], p[1], p[2], p[3], p[4], p[5], p[6], p[7], p[8]);
-    }
-
     private static void sign() {
-        promise = 6;
+        sentence("promise 6", "");
         TypingPool x = new TypingPool();
         for (int i = 1; i <= 25; i++) {
             due("sign", x.sign(-1), 4 * i);
@@ -205,7 +149,7 @@ public final class PromisesTest {
     }
 
     private static void end() {
-        promise = 7;
+        sentence("promise 7", "");
         TypingPool x = new TypingPool();
         due("end(1) of nothing", x.end(1), false);
         due("end(0) of nothing", x.end(0), true);
@@ -219,7 +163,7 @@ public final class PromisesTest {
     }
 
     private static void ruleForms() {
-        promise = 8;
+        sentence("promise 8", "");
         TypingPool x = new TypingPool();
         String[] texts = {"", "c+", "c+)", "1234", "12345", "c d", "c<1<2", "c<1&2<3", "(c<1)<2", "c<1+2<3",
             "((((((c))))))", "(((((((c", "()", "(c", "c)", "!-!c", "c!", "c--1", "c**1", "+c", "c(", "(c)c", "v",
@@ -245,7 +189,7 @@ public final class PromisesTest {
     }
 
     private static void ruleLimits() {
-        promise = 8;
+        sentence("promise 8", "");
         TypingPool x = new TypingPool();
         due("60 signs", tell(x, "-".repeat(59) + "c", 0, 0), 0);
         due("61 signs", tell(x, "-".repeat(60) + "c", 0, 0), -61);
@@ -271,7 +215,7 @@ public final class PromisesTest {
 
     /** What a text of pay gives for a piece of 7 lines, 2 copies, of secret 1. */
     private static void ruleValues() {
-        promise = 8;
+        sentence("promise 8", "");
         String[] texts = {"1+2*3", "(1+2)*3", "10-3-2", "2*3-4*5", "-l", "--l", "!l", "!!l", "!0+1", "-l+1", "-l*-2",
             "l<8", "l<7", "l>7", "l=7", "1<2=0|0", "0|0", "0|l", "3&l", "3&0", "l&2|0&1", "1|1&0", "(1|1)&0",
             "1+1=2&2*2=4", "1-1|2", "9999*9999*9999", "c+s*10", "3-(2-1)", "!(l=7)", "0-9999*9999*99", "2<3+4",
@@ -294,7 +238,7 @@ public final class PromisesTest {
     }
 
     private static void ruleDays() {
-        promise = 8;
+        sentence("promise 8", "");
         TypingPool x = new TypingPool();
         x.hand(60, 1, 0, 0);
         plain(x, 1, 0, 4800);
@@ -317,7 +261,7 @@ public final class PromisesTest {
     }
 
     private static void step() {
-        promise = 9;
+        sentence("promise 9", "");
         TypingPool x = new TypingPool();
         due("step(0)", x.step(0), 0);
         due("step(-1)", x.step(-1), -1);
@@ -374,7 +318,7 @@ public final class PromisesTest {
     }
 
     private static void of() {
-        promise = 10;
+        sentence("promise 10", "");
         TypingPool x = new TypingPool();
         x.hand(50, 1, 1, 0);
         x.away(0, 2, 4);
@@ -404,7 +348,7 @@ public final class PromisesTest {
     }
 
     private static void at() {
-        promise = 11;
+        sentence("promise 11", "");
         TypingPool x = new TypingPool();
         x.hand(60, 1, 0, 0);
         x.away(0, 0, 4);
@@ -431,7 +375,7 @@ public final class PromisesTest {
     }
 
     private static void may() {
-        promise = 12;
+        sentence("promise 12", "");
         TypingPool x = new TypingPool();
         x.hand(60, 1, 0, 1);
         x.hand(60, 2, 0, 3);
@@ -458,7 +402,7 @@ public final class PromisesTest {
     }
 
     private static void order() {
-        promise = 13;
+        sentence("promise 13", "");
         TypingPool x = new TypingPool();
         x.hand(60, 1, 1, 0);
         x.hand(60, 1, 0, 0);
@@ -489,7 +433,7 @@ public final class PromisesTest {
     }
 
     private static void goes() {
-        promise = 14;
+        sentence("promise 14", "");
         TypingPool x = new TypingPool();
         x.hand(60, 1, 0, 0);
         plain(x, 10, 0, 100);
@@ -522,7 +466,7 @@ public final class PromisesTest {
     }
 
     private static void count() {
-        promise = 15;
+        sentence("promise 15", "");
         TypingPool x = new TypingPool();
         x.hand(60, 1, 0, 0);
         x.hand(60, 0, 0, 0);
@@ -551,7 +495,7 @@ public final class PromisesTest {
     }
 
     private static void correct() {
-        promise = 16;
+        sentence("promise 16", "");
         TypingPool x = new TypingPool();
         x.hand(60, 1, 0, 0);
         plain(x, 1, 0, 9);
@@ -577,7 +521,7 @@ public final class PromisesTest {
     }
 
     private static void undoAndAs() {
-        promise = 17;
+        sentence("promise 17", "");
         TypingPool x = new TypingPool();
         x.hand(60, 1, 0, 0);
         plain(x, 1, 0, 9);
@@ -602,7 +546,7 @@ public final class PromisesTest {
         due("known on 7", x.fault(0), 1);
         due("ahead of knowing", x.undo(0, 0), true);
         due("never known", x.fault(0), -1);
-        promise = 18;
+        sentence("promise 18", "");
         due("as(100)", x.as(100), -1);
         due("as(-1)", x.as(-1), -1);
         due("unchanged", x.as(0), 7);
@@ -611,7 +555,7 @@ public final class PromisesTest {
     }
 
     private static void fault() {
-        promise = 19;
+        sentence("promise 19", "");
         TypingPool x = new TypingPool();
         x.hand(60, 1, 1, 0);
         x.piece(0, 0, 1, 0, 0, 0, 9, 1, 0);
@@ -645,7 +589,7 @@ public final class PromisesTest {
     }
 
     private static void faults() {
-        promise = 20;
+        sentence("promise 20", "");
         TypingPool x = new TypingPool();
         x.hand(60, 1, 0, 0);
         x.hand(60, 2, 0, 0);
@@ -678,7 +622,7 @@ public final class PromisesTest {
     }
 
     private static void pay() {
-        promise = 21;
+        sentence("promise 21", "");
         TypingPool x = new TypingPool();
         x.hand(60, 1, 0, 3);
         x.piece(0, 0, 30, 2, 0, 470, 490, 0, 5);
@@ -708,7 +652,7 @@ public final class PromisesTest {
     }
 
     private static void earns() {
-        promise = 22;
+        sentence("promise 22", "");
         TypingPool x = new TypingPool();
         x.hand(60, 1, 0, 0);
         x.hand(60, 2, 0, 0);
@@ -746,7 +690,7 @@ public final class PromisesTest {
     }
 
     private static void slipsAndLeft() {
-        promise = 23;
+        sentence("promise 23", "");
         TypingPool x = new TypingPool();
         plain(x, 9, 0, 490);
         plain(x, 9, 0, 490);
@@ -760,7 +704,7 @@ public final class PromisesTest {
         due("bits 0", x.slips(0, 1, 0), true);
         due("told", x.slips(1, 0, 3), true);
         due("told again", x.slips(1, 0, 0), true);
-        promise = 24;
+        sentence("promise 24", "");
         due("none together", x.left(0, 0), -1);
         due("all by one", x.slips(0, 0, 65535), true);
         due("none together", x.left(0, 0), -1);
@@ -783,7 +727,7 @@ public final class PromisesTest {
     }
 
     private static void quick() {
-        promise = 25;
+        sentence("promise 25", "");
         TypingPool x = new TypingPool();
         x.hand(100, 1, 0, 0);
         x.away(0, 1, 3);
@@ -811,7 +755,7 @@ public final class PromisesTest {
     }
 
     private static void claims() {
-        promise = 26;
+        sentence("promise 26", "");
         TypingPool x = new TypingPool();
         x.hand(60, 1, 0, 0);
         x.piece(3, 0, 10, 0, 7, 0, 480, 0, 0);
@@ -840,17 +784,8 @@ public final class PromisesTest {
         due("lines of the next day", x.claims(3, 4), 50);
     }
 
-    private static void dueRow(TypingPool x, int... numbers) {
-        due("numbers", x.count(10), numbers.length);
-        for (int i = 0; i < numbers.length; i++) {
-            int number = i;
-            due("row(" + i + ")", x.count(10) > number ? x.row(number) : -99, numbers[i]);
-        }
-        dueThrow("row at its end", () -> x.row(numbers.length));
-    }
-
     private static void plan() {
-        promise = 27;
+        sentence("promise 27", "");
         TypingPool x = new TypingPool();
         x.hand(60, 1, 0, 0);
         x.hand(60, 1, 0, 0);
@@ -889,7 +824,7 @@ public final class PromisesTest {
     }
 
     private static void planTies() {
-        promise = 27;
+        sentence("promise 27", "");
         TypingPool x = new TypingPool();
         x.hand(60, 1, 0, 0);
         x.hand(60, 1, 0, 0);
@@ -922,7 +857,7 @@ public final class PromisesTest {
     }
 
     private static void planLearns() {
-        promise = 27;
+        sentence("promise 27", "");
         TypingPool x = new TypingPool();
         x.hand(60, 1, 0, 0);
         x.piece(0, 0, 1, 0, 9, 0, 100, 2, 0);
@@ -957,7 +892,7 @@ public final class PromisesTest {
     }
 
     private static void lateness() {
-        promise = 28;
+        sentence("promise 28", "");
         TypingPool x = new TypingPool();
         x.hand(60, 1, 0, 0);
         plain(x, 10, 0, 5);
@@ -973,7 +908,7 @@ public final class PromisesTest {
     }
 
     private static void tried() {
-        promise = 29;
+        sentence("promise 29", "");
         TypingPool x = new TypingPool();
         x.hand(60, 1, 1, 0);
         x.hand(60, 2, 0, 0);
@@ -1015,7 +950,7 @@ public final class PromisesTest {
     }
 
     private static void ill() {
-        promise = 30;
+        sentence("promise 30", "");
         TypingPool x = new TypingPool();
         x.hand(60, 1, 0, 0);
         x.hand(60, 3, 0, 0);
@@ -1047,7 +982,7 @@ public final class PromisesTest {
     }
 
     private static void row() {
-        promise = 31;
+        sentence("promise 31", "");
         TypingPool x = new TypingPool();
         dueThrow("nothing told", () -> x.row(0));
         x.tried(-1, 0);
