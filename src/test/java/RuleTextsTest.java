@@ -229,6 +229,11 @@ public final class RuleTextsTest extends Checks {
         dueRead("((1<2)+3)<4<5", -12);
         dueRead("!1<2<3", -5);
         dueRead("1<2*(3&4<5)<6", -12);
+        dueRead("(1&2)<3", 0);
+        dueRead("(1|2)<3", 0);
+        dueRead("((1&2)<3)<4", 0);
+        dueRead("(1<2&3)<4", 0);
+        dueRead("(1&(2|3))=4", 0);
         dueRead("1<2&(3<4)&5<6", 0);
         dueValue("(1<2)=(3<4)", 1);
         dueValue("3>(2>1)", 1);
@@ -351,6 +356,21 @@ public final class RuleTextsTest extends Checks {
         }
     }
 
+    static void t3LettersOfOrder() {
+        sentence("Terms 3", "c CLAIM, .. l LINES, .. s SECRET, p DEPARTMENT");
+        String[] letters = {"c", "l", "s", "p"};
+        int[] least = {0, 1, 0, 0};
+        int[] most = {9, 400, 3, 7};
+        for (int i = 0; i < letters.length; i++) {
+            TypingPool x = poolWith(60);
+            x.piece(0, 0, 1, 0, 0, 0, 0, 0, 0);
+            x.piece(7, 0, 400, 3, 9, 0, 4800, 0, 0);
+            tell(x, letters[i], 0, 0);
+            due(letters[i] + " of the least", x.order(0, 0), least[i]);
+            due(letters[i] + " of the most", x.order(0, 1), most[i]);
+        }
+    }
+
     static void t3MinutesSinceItComes() {
         sentence("Terms 3", "w MINUTES since it COMES");
         TypingPool x = poolWith(60);
@@ -460,6 +480,22 @@ public final class RuleTextsTest extends Checks {
         due("order at 480", y.at(1, 3), 481);
     }
 
+    static void t3ByTheDayInOneStep() {
+        sentence("Terms 3", "By the DAY of NOW, in the midst of a step");
+        for (int day = 1; day <= 9; day++) {
+            for (int ahead = 1; ahead <= 479; ahead += 239) {
+                TypingPool x = poolWith(60);
+                x.piece(6, 0, 1, 3, 0, 0, 4800, 0, 0);
+                tell(x, "1", 1, day);
+                goTo(x, day * 480 - ahead);
+                x.tried(-1, ahead + 1);
+                due("tried: taken as the day begins", x.row(6), day * 480);
+                x.step(ahead + 100);
+                due("taken as the day begins", x.at(0, 2), day * 480);
+            }
+        }
+    }
+
     /** A pool whose one piece, of word 1, is done at minute 2 by a hand that may know it. */
     private static TypingPool poolWithOneDone(int known) {
         TypingPool x = new TypingPool();
@@ -505,6 +541,8 @@ public final class RuleTextsTest extends Checks {
             x.correct(0, 0, 0, 0, 0);
             tell(x, "x", 2, 0);
             due("words " + a[1] + " for one that knew " + a[0], x.fault(0), a[2]);
+            tell(x, "2-x", 2, 0);
+            due("2-x for one that knew " + a[0], x.fault(0), 2 - a[2]);
         }
         TypingPool y = poolWithOneDone(0);
         y.piece(0, 0, 1, 0, 0, 2, 4800, 1, 0);
@@ -539,6 +577,23 @@ public final class RuleTextsTest extends Checks {
         x.step(130);
         due("1 line", x.pay(0), 1);
         due("400 lines", x.pay(1), 400);
+    }
+
+    static void t3LettersOfPay() {
+        sentence("Terms 3", "l LINES, c COPIES, s SECRET");
+        String[] letters = {"l", "c", "s"};
+        int[] least = {1, 0, 0};
+        int[] most = {400, 6, 3};
+        for (int i = 0; i < letters.length; i++) {
+            TypingPool x = new TypingPool();
+            x.hand(200, 1, 0, 3);
+            x.piece(0, 0, 1, 0, 0, 0, 0, 0, 0);
+            x.piece(7, 0, 400, 3, 9, 0, 4800, 0, 6);
+            tell(x, letters[i], 3, 0);
+            x.step(200);
+            due(letters[i] + " of the least", x.pay(0), least[i]);
+            due(letters[i] + " of the most", x.pay(1), most[i]);
+        }
     }
 
     static void t3PayByTheDayOfDone() {
@@ -689,6 +744,22 @@ public final class RuleTextsTest extends Checks {
         write(x, "-".repeat(100));
         x.rule(0, 0);
         due("too long", x.count(11), 0);
+    }
+
+    static void p8ReadAnew() {
+        sentence("promise 8", "THE TEXT, which is empty then, is a RULE: whatever was read ahead");
+        String[] wrong = {"((((((", "(1+(2", "1<2<", "(1<2", "1<", "1+2*", "1234", "-!-", "(((1<2)<3)<4", "1<2)", "c+-("};
+        String[] right = {"((((((c))))))", "c<9", "9-c", "1234", "c", "!c"};
+        int[] values = {5, 1, 4, 1234, 5, 0};
+        for (String first : wrong) {
+            for (int i = 0; i < right.length; i++) {
+                TypingPool x = poolWith(60);
+                x.piece(0, 0, 7, 0, 5, 0, 0, 0, 0);
+                tell(x, first, 0, 0);
+                due(right[i] + " behind " + first, tell(x, right[i], 0, 0) >= 0, true);
+                due("value of " + right[i] + " behind " + first, x.order(0, 0), values[i]);
+            }
+        }
     }
 
     static void p8NumberOfAllKinds() {

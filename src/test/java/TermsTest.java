@@ -552,6 +552,36 @@ public final class TermsTest extends Checks {
         due("with one word learnt", y.of(0, 6), 55);
     }
 
+    static void t2OneShortOfAllItsWork() {
+        sentence("Terms 2", "If it has done all its WORK");
+        TypingPool x = poolWith(59);
+        plain(x, 1, 0, 100);
+        plain(x, 1, 0, 100);
+        int[] left = {60, 1, 0};
+        int[] states = {1, 2, 3};
+        for (int minute = 0; minute < left.length; minute++) {
+            due("left at " + minute, x.at(0, 4), left[minute]);
+            due("state at " + minute, x.at(0, 0), states[minute]);
+            x.step(1);
+        }
+        due("the next one is taken when that is done", x.at(1, 2), 2);
+    }
+
+    static void t2KeepsWhatItKnew() {
+        sentence("Terms 2", "which knows its WORDS then");
+        TypingPool x = new TypingPool();
+        x.hand(60, 1, 0b0011, 0);
+        x.piece(0, 0, 1, 0, 9, 0, 100, 0b0110, 0);
+        x.piece(0, 0, 1, 0, 8, 0, 100, 0b1000, 0);
+        x.piece(0, 0, 1, 0, 7, 0, 100, 0, 0);
+        x.step(2);
+        due("what it knew and what it learnt", x.of(0, 1), 0b0111);
+        x.step(2);
+        due("and one more", x.of(0, 1), 0b1111);
+        x.step(1);
+        due("nothing more to learn", x.of(0, 1), 0b1111);
+    }
+
     static void t2LateIfDone() {
         sentence("Terms 2", "LATE: DONE behind DUE");
         int[][] answers = {{9, 1, 1}, {10, 0, 0}, {11, 0, 0}, {0, 1, 10}};
@@ -854,6 +884,42 @@ public final class TermsTest extends Checks {
         due("one about others", x.lateness(1, 1), 10);
     }
 
+    static void t5AwayOfAnother() {
+        sentence("Terms 5", "AWAY as told: a HAND's own");
+        TypingPool x = poolWith(60);
+        x.hand(60, 1, 0, 0);
+        plain(x, 5, 0, 0);
+        x.away(1, 0, 3);
+        x.away(1, 4, 9);
+        due("the one that is there", x.lateness(1, 1), 5);
+        due("the other: a minute at 3, four from 9 on", x.lateness(1, 2), 13);
+        due("both", x.plan(1, 3), 1);
+        dueRow(x, 0, -1, -1);
+        x.away(0, 5, 50);
+        due("done just ahead of going", x.lateness(1, 1), 5);
+        x.away(0, 7, 50);
+        due("told twice", x.lateness(1, 1), 5);
+        x.step(1);
+        due("the first has it", x.at(0, 1), 0);
+        plain(x, 3, 1, 1);
+        due("four left, then one away, then three", x.lateness(2, 1), 52);
+    }
+
+    static void t5WhatItHasTeaches() {
+        sentence("Terms 5", "(from when it has done what it has) .. (it learns)");
+        TypingPool x = new TypingPool();
+        x.hand(60, 1, 1, 0);
+        x.piece(0, 0, 1, 0, 9, 0, 100, 0b10, 0);
+        x.piece(0, 0, 11, 0, 0, 0, 0, 0b11, 0);
+        x.step(1);
+        due("rate", x.of(0, 6), 55);
+        due("5 are left: one minute, then 11 at 60", x.lateness(2, 1), 13);
+        x.piece(0, 0, 11, 0, 0, 1, 0, 0b111, 0);
+        due("refused", x.count(2), 2);
+        x.piece(0, 0, 11, 0, 0, 1, 1, 0b111, 0);
+        due("660 at 55: 12", x.lateness(4, 1), 13);
+    }
+
     static void t5ItLearns() {
         sentence("Terms 5", "each at its RATE as it is then (it learns)");
         TypingPool x = poolWith(60);
@@ -901,6 +967,24 @@ public final class TermsTest extends Checks {
         due("waited", x.claims(1, 0), 0);
         x.step(3);
         due("then it goes on", x.at(0, 3), 3);
+    }
+
+    static void t5TriedGoesOnFromNow() {
+        sentence("Terms 5", "TRIED: all goes on for some MINUTES");
+        TypingPool x = new TypingPool();
+        x.hand(60, 1, 0b111, 0);
+        x.piece(0, 0, 2, 0, 9, 0, 4, 0b111, 0);
+        x.piece(5, 0, 2, 0, 5, 0, 4, 0b111, 0);
+        x.piece(6, 0, 2, 0, 4, 0, 100, 0b111, 0);
+        due("with the words that it knows", x.tried(-1, 6), 0);
+        dueRow(x, 0, 0, 0, 0, 0, 2, 4, 0);
+        x.step(1);
+        due("with what it has", x.tried(-1, 5), 0);
+        dueRow(x, 0, 0, 0, 0, 0, 2, 4, 0);
+        due("ill from 1 on", x.ill(0, 5), 2);
+        x.step(2);
+        due("with what has waited", x.tried(-1, 0), 0);
+        dueRow(x, 0, 0, 0, 0, 0, 2, 0, 0);
     }
 
     static void t5Row() {
