@@ -4,6 +4,7 @@ import java.lang.reflect.Method;
 import java.lang.reflect.Modifier;
 import java.util.Arrays;
 import java.util.HashSet;
+import java.util.NoSuchElementException;
 import java.util.Set;
 import java.util.TreeSet;
 
@@ -18,6 +19,9 @@ public final class FaceTest {
         "int earns(int,int)", "boolean slips(int,int,int)", "int left(int,int)", "int quick(int,int)",
         "int claims(int,int)", "int plan(int,int)", "int lateness(int,int)", "int tried(int,int)",
         "int ill(int,int)", "int row(int)"};
+
+    /** The calls that the document declares with "throws NoSuchElementException". */
+    private static final Set<String> THROWING = Set.of("of", "order", "pay", "earns", "ill", "row");
 
     private static int wrong = 0;
 
@@ -40,6 +44,9 @@ public final class FaceTest {
             due(method + " is public and no static one",
                 Modifier.isPublic(method.getModifiers()) && !Modifier.isStatic(method.getModifiers()));
             publicNames.add(method.getName());
+            Class<?>[] declared = method.getExceptionTypes();
+            due(method + " declares what it throws", THROWING.contains(method.getName())
+                ? declared.length == 1 && declared[0] == NoSuchElementException.class : declared.length == 0);
             String parameters = Arrays.toString(method.getParameterTypes());
             seen.add(method.getReturnType() + " " + method.getName() + "("
                 + parameters.substring(1, parameters.length() - 1).replace(" ", "") + ")");

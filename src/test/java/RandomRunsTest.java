@@ -41,6 +41,9 @@ public final class RandomRunsTest {
     }
 
     private void go() {
+        if (run % 7 == 0) {
+            goNearTheEnd();
+        }
         int hands = 1 + random.nextInt(random.nextInt(4) == 0 ? 9 : 4);
         for (int i = 0; i < hands; i++) {
             tellHand();
@@ -58,6 +61,14 @@ public final class RandomRunsTest {
             somethingMore();
         }
         lookAtAll();
+    }
+
+    /** Few runs would come to the last minutes by themselves. */
+    private void goNearTheEnd() {
+        int start = 4800 - random.nextInt(random.nextBoolean() ? 700 : 60);
+        while (naive.now < start && !wrong) {
+            ask("step", Math.min(960, start - naive.now));
+        }
     }
 
     private void somethingMore() {
